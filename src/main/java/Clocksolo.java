@@ -166,7 +166,7 @@ public final class Clocksolo {
     public int compare(int clock, int other) throws IndexOutOfBoundsException {
         needClock(clock);
         needClock(other);
-        return Long.compare(numberOf(clock), numberOf(other));
+        return sideOf(numberOf(clock), numberOf(other));
     }
 
     public boolean isAhead(int clock, int other) throws IndexOutOfBoundsException {
@@ -400,6 +400,14 @@ public final class Clocksolo {
         return size > 0 ? number - number % size : number;
     }
 
+    /** By hand, since the library promises a sign of Long.compare, not that it is -1 or 1. */
+    private static int sideOf(long number, long other) {
+        if (number < other) {
+            return -1;
+        }
+        return number > other ? 1 : 0;
+    }
+
     private static long unitsBetween(long from, long to, int unit) {
         long size = unitNanos(unit);
         return size > 0 ? (to - from) / size : 0L;
@@ -473,7 +481,7 @@ public final class Clocksolo {
     }
 
     private static boolean pairHolds(long from, long to) {
-        if (comparedByParts(from, to) != Long.compare(from, to)) {
+        if (comparedByParts(from, to) != sideOf(from, to)) {
             return false;
         }
         for (int unit = 0; unit < DAY; unit++) {
@@ -486,9 +494,9 @@ public final class Clocksolo {
 
     private static int comparedByParts(long one, long other) {
         for (int what = HOUR; what <= NANO; what++) {
-            int side = Integer.compare(partOf(one, what), partOf(other, what));
+            int side = partOf(one, what) - partOf(other, what);
             if (side != 0) {
-                return side;
+                return side < 0 ? -1 : 1;
             }
         }
         return 0;
@@ -511,7 +519,7 @@ public final class Clocksolo {
     }
 
     private static long digestPair(long digest, long first, long other) {
-        long d = digest * 31 + Long.compare(first, other);
+        long d = digest * 31 + sideOf(first, other);
         for (int unit = 0; unit < DAY; unit++) {
             d = d * 31 + unitsBetween(first, other, unit);
         }
