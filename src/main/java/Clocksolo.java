@@ -494,9 +494,9 @@ public final class Clocksolo {
 
     private static int comparedByParts(long one, long other) {
         for (int what = HOUR; what <= NANO; what++) {
-            int side = partOf(one, what) - partOf(other, what);
+            int side = sideOf(partOf(one, what), partOf(other, what));
             if (side != 0) {
-                return side < 0 ? -1 : 1;
+                return side;
             }
         }
         return 0;
